@@ -1,0 +1,136 @@
+import java.lang.reflect.InvocationTargetException;
+import java.lang.reflect.Method;
+import java.util.HashMap;
+import java.util.Map;
+
+/** A run of calls on one new object, each with the answer that is due. */
+final class Run {
+    private static final Map<String, Method> METHODS = new HashMap<>();
+    private static int wrong = 0;
+    private static int asked = 0;
+
+    private final String title;
+    private final Object shell;
+
+    Run(String title) {
+        this(title, new Shellhouse());
+    }
+
+    Run(String title, Object shell) {
+        this.title = title;
+        this.shell = shell;
+    }
+
+    /** Makes a call; what it answers is due to read like the answer given. */
+    Run due(Object answer, String method, Object... args) {
+        check(String.valueOf(answer), answerOf(shell, method, args), method, args);
+        return this;
+    }
+
+    /** Makes a call whose answer is of no matter here, but which is due not to throw. */
+    Run call(String method, Object... args) {
+        String got = answerOf(shell, method, args);
+        if (got.startsWith("throws")) {
+            check("an answer", got, method, args);
+        }
+        return this;
+    }
+
+    /** Makes a call that is due to throw, and to change nothing. */
+    Run refuses(Class<? extends RuntimeException> exception, String method, Object... args) {
+        String before = pictureOf(shell);
+        check("throws " + exception.getSimpleName(), answerOf(shell, method, args), method, args);
+        check(before, pictureOf(shell), method + " (all answers behind it)", args);
+        return this;
+    }
+
+    private void check(String due, String got, String method, Object[] args) {
+        asked++;
+        if (!due.equals(got)) {
+            wrong++;
+            System.out.println(title + ": " + written(method, args) + " answered " + got + ", due is " + due);
+        }
+    }
+
+    /** Tells the outcome of all runs, and ends the program with 1 if one was wrong. */
+    static void tell(String name) {
+        System.out.println(name + ": " + asked + " answers, " + wrong + " of them wrong");
+        if (wrong != 0 || asked == 0) {
+            System.exit(1);
+        }
+    }
+
+    static String written(String method, Object... args) {
+        StringBuilder text = new StringBuilder(method).append('(');
+        for (int i = 0; i < args.length; i++) {
+            text.append(i == 0 ? "" : ", ").append(args[i]);
+        }
+        return text.append(')').toString();
+    }
+
+    static String answerOf(Object shell, String method, Object... args) {
+        try {
+            return String.valueOf(methodOf(shell, method).invoke(shell, args));
+        } catch (InvocationTargetException e) {
+            return "throws " + e.getCause().getClass().getSimpleName();
+        } catch (IllegalAccessException e) {
+            throw new AssertionError(e);
+        }
+    }
+
+    private static Method methodOf(Object shell, String name) {
+        return METHODS.computeIfAbsent(shell.getClass().getName() + "." + name, key -> {
+            for (Method method : shell.getClass().getDeclaredMethods()) {
+                if (method.getName().equals(name)) {
+                    method.setAccessible(true);
+                    return method;
+                }
+            }
+            throw new AssertionError("no method " + key);
+        });
+    }
+
+    /** The answers of all calls that only ask. */
+    static String pictureOf(Object shell) {
+        StringBuilder text = new StringBuilder();
+        for (int session = 0; session < 5; session++) {
+            add(text, shell, "isAttached", session);
+            add(text, shell, "front", session);
+            add(text, shell, "kept", session);
+            for (int back = 0; back < 9; back++) {
+                add(text, shell, "commandAt", session, back);
+            }
+            add(text, shell, "search", session, 0, 99);
+            for (char state : "rwsdk".toCharArray()) {
+                add(text, shell, "count", session, state);
+            }
+        }
+        add(text, shell, "common");
+        for (int back = 0; back < 13; back++) {
+            add(text, shell, "commonAt", back);
+        }
+        for (int job = 0; job < 31 && !answerOf(shell, "state", job).startsWith("throws"); job++) {
+            for (String asking : new String[] {
+                    "state", "stateByJournal", "toDo", "sessionOf", "holds", "blockers", "waitingAt"}) {
+                add(text, shell, asking, job);
+            }
+        }
+        for (int lock = 0; lock < 6; lock++) {
+            add(text, shell, "holder", lock);
+            add(text, shell, "holderByJobs", lock);
+        }
+        for (String asking : new String[] {"waiting", "entries", "worked", "doneShare"}) {
+            add(text, shell, asking);
+        }
+        int entries = Integer.parseInt(answerOf(shell, "entries"));
+        for (int entry = Math.max(0, entries - 70); entry < entries; entry++) {
+            add(text, shell, "entryJob", entry);
+            add(text, shell, "entryState", entry);
+        }
+        return text.toString();
+    }
+
+    private static void add(StringBuilder text, Object shell, String method, Object... args) {
+        text.append(written(method, args)).append('=').append(answerOf(shell, method, args)).append('\n');
+    }
+}
