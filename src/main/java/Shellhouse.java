@@ -327,7 +327,7 @@ public final class Shellhouse {
 
     public char entryState(int entry) throws NoSuchElementException {
         refuseNoEntry(entry);
-        return journal.conditions[entry];
+        return journal.conditionAt(entry);
     }
 
     public long worked() {
@@ -656,12 +656,13 @@ public final class Shellhouse {
         private static final int MOST_ROOM = 16384;
 
         int[] jobNumbers;
-        char[] conditions;
+        /** Each one the number of its sign. */
+        int[] conditions;
         int size;
 
         Journal() {
             jobNumbers = new int[FIRST_ROOM];
-            conditions = new char[FIRST_ROOM];
+            conditions = new int[FIRST_ROOM];
             size = 0;
         }
 
@@ -679,10 +680,14 @@ public final class Shellhouse {
             size++;
         }
 
+        char conditionAt(int entry) {
+            return (char) conditions[entry];
+        }
+
         char lastStateOf(int job) {
             for (int entry = size - 1; entry >= 0; entry--) {
                 if (jobNumbers[entry] == job) {
-                    return conditions[entry];
+                    return conditionAt(entry);
                 }
             }
             // Only a job that was started when the journal was full comes here.

@@ -9,6 +9,7 @@ public final class JournalTest {
         entriesOfEachChange();
         entry();
         longestJournal();
+        fullJournal();
         worked();
         doneShare();
         Run.tell("JournalTest");
@@ -62,6 +63,19 @@ public final class JournalTest {
         run.due('w', "entryState", 0).due('r', "entryState", 59).due('r', "stateByJournal", 29)
             .due('r', "stateByJournal", 0).due(30, "tick", 1).due('d', "stateByJournal", 29)
             .due(90 + 480 * 30, "entries");
+    }
+
+    /** Behind its 512th call an object may answer what it likes, but the machine never throws in it. */
+    private static void fullJournal() {
+        Run run = shared("no machine exception in a full journal");
+        for (int i = 0; i < 29; i++) {
+            run.due(i, "start", 0, 0, 1, 0, false);
+        }
+        for (int i = 0; i < 700; i++) {
+            run.due(29, "signal", 0, i % 2 == 0 ? 's' : 'g');
+        }
+        run.due(29, "start", 0, 0, 1, 0, false).call("stateByJournal", 29).call("entries").call("entryJob", 16000)
+            .due(30, "tick", 1);
     }
 
     private static void worked() {

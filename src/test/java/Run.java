@@ -72,10 +72,17 @@ final class Run {
         try {
             return String.valueOf(methodOf(shell, method).invoke(shell, args));
         } catch (InvocationTargetException e) {
-            return "throws " + e.getCause().getClass().getSimpleName();
+            return "throws " + thrown(shell, e.getCause());
         } catch (IllegalAccessException e) {
             throw new AssertionError(e);
         }
+    }
+
+    /** The exception's name; one that the class did not throw itself, but let the library throw, is another one. */
+    private static String thrown(Object shell, Throwable exception) {
+        String name = exception.getClass().getSimpleName();
+        boolean foreign = !exception.getStackTrace()[0].getClassName().startsWith("Shellhouse");
+        return shell instanceof Shellhouse && foreign ? name + " of the library" : name;
     }
 
     private static Method methodOf(Object shell, String name) {
