@@ -1,13 +1,5 @@
-import java.util.NoSuchElementException;
-
 /** Promises 12 to 20: jobs. */
-public final class JobsTest {
-    private static final Class<IndexOutOfBoundsException> OUTSIDE = IndexOutOfBoundsException.class;
-    private static final Class<IllegalStateException> STATE = IllegalStateException.class;
-    private static final Class<IllegalArgumentException> ARGUMENT = IllegalArgumentException.class;
-    private static final Class<UnsupportedOperationException> UNSUPPORTED = UnsupportedOperationException.class;
-    private static final Class<NoSuchElementException> MISSING = NoSuchElementException.class;
-
+public final class JobsTest extends Cases {
     public static void main(String[] args) {
         start();
         startEdges();
@@ -24,10 +16,6 @@ public final class JobsTest {
         toBack();
         count();
         Run.tell("JobsTest");
-    }
-
-    private static Run shared(String title) {
-        return new Run(title).due(0, "open", false);
     }
 
     private static void start() {

@@ -1,9 +1,5 @@
-import java.util.NoSuchElementException;
-
 /** Promises 32 to 36: the journal. */
-public final class JournalTest {
-    private static final Class<NoSuchElementException> MISSING = NoSuchElementException.class;
-
+public final class JournalTest extends Cases {
     public static void main(String[] args) {
         entries();
         entriesOfEachChange();
@@ -13,10 +9,6 @@ public final class JournalTest {
         worked();
         doneShare();
         Run.tell("JournalTest");
-    }
-
-    private static Run shared(String title) {
-        return new Run(title).due(0, "open", false);
     }
 
     private static void entries() {

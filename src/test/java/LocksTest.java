@@ -1,12 +1,5 @@
-import java.util.NoSuchElementException;
-
 /** Promises 21 to 31: locks, signals and ticks. */
-public final class LocksTest {
-    private static final Class<IndexOutOfBoundsException> OUTSIDE = IndexOutOfBoundsException.class;
-    private static final Class<IllegalStateException> STATE = IllegalStateException.class;
-    private static final Class<IllegalArgumentException> ARGUMENT = IllegalArgumentException.class;
-    private static final Class<NoSuchElementException> MISSING = NoSuchElementException.class;
-
+public final class LocksTest extends Cases {
     public static void main(String[] args) {
         holders("promise 21", "holder");
         holders("promise 22", "holderByJobs");
@@ -29,18 +22,6 @@ public final class LocksTest {
         tickOfManyJobs();
         tickOfADroppedSession();
         Run.tell("LocksTest");
-    }
-
-    private static Run shared(String title) {
-        return new Run(title).due(0, "open", false);
-    }
-
-    /** Starts jobs behind, each with the work and the locks told. */
-    private static Run jobs(Run run, int session, int work, int... locks) {
-        for (int needed : locks) {
-            run.call("start", session, 0, work, needed, false);
-        }
-        return run;
     }
 
     private static void holders(String title, String asking) {

@@ -1,16 +1,25 @@
 import java.lang.reflect.InvocationTargetException;
 import java.lang.reflect.Method;
+import java.util.ArrayList;
 import java.util.HashMap;
+import java.util.List;
 import java.util.Map;
+import java.util.NoSuchElementException;
 
 /** A run of calls on one new object, each with the answer that is due. */
 final class Run {
+    record Call(String method, Object... args) { }
+
+    /** One fault may make thousands of answers wrong. */
+    private static final int MOST_TOLD = 50;
     private static final Map<String, Method> METHODS = new HashMap<>();
     private static int wrong = 0;
     private static int asked = 0;
 
     private final String title;
     private final Object shell;
+    /** The calls up to now, but for those that were refused. */
+    private final List<Call> made = new ArrayList<>();
 
     Run(String title) {
         this(title, new Shellhouse());
@@ -24,6 +33,7 @@ final class Run {
     /** Makes a call; what it answers is due to read like the answer given. */
     Run due(Object answer, String method, Object... args) {
         check(String.valueOf(answer), answerOf(shell, method, args), method, args);
+        made.add(new Call(method, args));
         return this;
     }
 
@@ -33,21 +43,91 @@ final class Run {
         if (got.startsWith("throws")) {
             check("an answer", got, method, args);
         }
+        made.add(new Call(method, args));
         return this;
     }
 
-    /** Makes a call that is due to throw, and to change nothing. */
+    /** Makes a call that is due to throw, and to change nothing, neither what can be asked now nor what comes of it. */
     Run refuses(Class<? extends RuntimeException> exception, String method, Object... args) {
         String before = pictureOf(shell);
         check("throws " + exception.getSimpleName(), answerOf(shell, method, args), method, args);
         check(before, pictureOf(shell), method + " (all answers behind it)", args);
+        Object without = behind(new Shellhouse(), made);
+        Object with = behind(new Shellhouse(), made);
+        answerOf(with, method, args);
+        check(futureOf(without), futureOf(with), method + " (what comes behind it)", args);
         return this;
+    }
+
+    /** The same shell, behind the calls. */
+    static Object behind(Object shell, List<Call> calls) {
+        calls.forEach(call -> answerOf(shell, call.method, call.args));
+        return shell;
+    }
+
+    /** The answers of calls that show what can't be asked for: who is private, and whom a drop has stopped. */
+    static String futureOf(Object shell) {
+        StringBuilder text = new StringBuilder();
+        for (String method : new String[] {"takeUp", "drop", "takeUp"}) {
+            for (int session = 0; session < 4; session++) {
+                add(text, shell, method, session);
+            }
+        }
+        for (int session = 0; session < 4; session++) {
+            add(text, shell, "setPrivate", session, true);
+            add(text, shell, "signal", session, 'g');
+        }
+        add(text, shell, "tick", 1);
+        add(text, shell, "start", 0, 98, 1, 0, true);
+        add(text, shell, "open", false);
+        add(text, shell, "tick", 60);
+        return text.append(pictureOf(shell)).toString();
+    }
+
+    /** The states of the jobs from 0 on, as they are kept and by the journal. */
+    Run states(String states) {
+        for (int job = 0; job < states.length(); job++) {
+            due(states.charAt(job), "state", job).due(states.charAt(job), "stateByJournal", job);
+        }
+        return this;
+    }
+
+    /** The whole journal, each entry as the job's number and the state. */
+    Run journal(String entries) {
+        String[] due = entries.split(" ");
+        due(due.length, "entries");
+        for (int entry = 0; entry < due.length; entry++) {
+            int end = due[entry].length() - 1;
+            due(due[entry].substring(0, end), "entryJob", entry).due(due[entry].charAt(end), "entryState", entry);
+        }
+        return this;
+    }
+
+    /** The whole history of a session, the last command first. */
+    Run history(int session, int... commands) {
+        due(commands.length, "kept", session);
+        for (int back = 0; back < commands.length; back++) {
+            due(commands[back], "commandAt", session, back);
+        }
+        return refuses(NoSuchElementException.class, "commandAt", session, commands.length);
+    }
+
+    /** The whole common history, the last command first. */
+    Run commonHistory(int... commands) {
+        due(commands.length, "common");
+        for (int back = 0; back < commands.length; back++) {
+            due(commands[back], "commonAt", back);
+        }
+        return refuses(NoSuchElementException.class, "commonAt", commands.length);
     }
 
     private void check(String due, String got, String method, Object[] args) {
         asked++;
-        if (!due.equals(got)) {
-            wrong++;
+        if (due.equals(got)) {
+            return;
+        }
+        wrong++;
+        if (wrong <= MOST_TOLD) {
             System.out.println(title + ": " + written(method, args) + " answered " + got + ", due is " + due);
         }
     }

@@ -1,12 +1,5 @@
-import java.util.NoSuchElementException;
-
 /** Promises 1 to 11: sessions and histories. */
-public final class SessionsTest {
-    private static final Class<IndexOutOfBoundsException> OUTSIDE = IndexOutOfBoundsException.class;
-    private static final Class<IllegalStateException> STATE = IllegalStateException.class;
-    private static final Class<IllegalArgumentException> ARGUMENT = IllegalArgumentException.class;
-    private static final Class<NoSuchElementException> MISSING = NoSuchElementException.class;
-
+public final class SessionsTest extends Cases {
     public static void main(String[] args) {
         newObject();
         open();
@@ -26,17 +19,6 @@ public final class SessionsTest {
         search();
         searchRefuses();
         Run.tell("SessionsTest");
-    }
-
-    private static Run shared(String title) {
-        return new Run(title).due(0, "open", false);
-    }
-
-    private static Run started(Run run, int session, int... commands) {
-        for (int command : commands) {
-            run.call("start", session, command, 1, 0, false);
-        }
-        return run;
     }
 
     private static void newObject() {
